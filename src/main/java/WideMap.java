@@ -971,6 +971,14 @@ public final class WideMap {
             kids = leaf ? null : new Node[SLOTS];
         }
 
+        /** A copy that has a token of its own. */
+        Node(Node other, int token) {
+            this.token = token;
+            entries = other.entries == null ? null : other.entries.clone();
+            kids = other.kids == null ? null : other.kids.clone();
+            size = other.size;
+        }
+
         boolean isLeaf() {
             return entries != null;
         }
@@ -1112,18 +1120,14 @@ public final class WideMap {
         }
 
         void moveLastToFirst(Node from) {
-            if (from != null) {
-                openSlot(0);
-                copySlot(0, from, from.size - 1);
-                from.closeSlot(from.size - 1);
-            }
+            openSlot(0);
+            copySlot(0, from, from.size - 1);
+            from.closeSlot(from.size - 1);
         }
 
         void moveFirstToLast(Node from) {
-            if (from != null) {
-                append(from, 0);
-                from.closeSlot(0);
-            }
+            append(from, 0);
+            from.closeSlot(0);
         }
 
         void appendAll(Node from) {
@@ -1181,9 +1185,8 @@ public final class WideMap {
             if (node.token() == token) {
                 return node;
             }
-            Node copy = newNode(node.isLeaf(), token);
-            copy.appendAll(node);
-            return copy;
+            made++;
+            return new Node(node, token);
         }
 
         /** The child at i, edited and in its place (null: there is none). */
@@ -1266,9 +1269,13 @@ public final class WideMap {
             Node ahead = node.kidAt(i - 1);
             Node behind = node.kidAt(i + 1);
             if (ahead != null && ahead.size() > least()) {
-                kid.moveLastToFirst(editedKid(node, i - 1, token));
+                Node giver = edited(ahead, token);
+                node.setKid(i - 1, giver);
+                kid.moveLastToFirst(giver);
             } else if (behind != null && behind.size() > least()) {
-                kid.moveFirstToLast(editedKid(node, i + 1, token));
+                Node giver = edited(behind, token);
+                node.setKid(i + 1, giver);
+                kid.moveFirstToLast(giver);
             } else if (ahead != null) {
                 Node taker = edited(ahead, token);
                 taker.appendAll(kid);
