@@ -513,6 +513,22 @@ final class Model {
         return held.containsKey(base) && held.containsKey(map) && held.containsKey(other);
     }
 
+    /** Each key that one of these maps has, with its values in them. */
+    List<int[]> keysOf(int base, int map, int other) {
+        TreeMap<Integer, Integer> a = held.get(base).all();
+        TreeMap<Integer, Integer> b = held.get(map).all();
+        TreeMap<Integer, Integer> c = held.get(other).all();
+        TreeSet<Integer> keys = new TreeSet<>(a.keySet());
+        keys.addAll(b.keySet());
+        keys.addAll(c.keySet());
+        List<int[]> all = new ArrayList<>();
+        for (int key : keys) {
+            all.add(new int[] {key, a.getOrDefault(key, HIDDEN), b.getOrDefault(key, HIDDEN),
+                c.getOrDefault(key, HIDDEN)});
+        }
+        return all;
+    }
+
     int three(int base, int map, int other, int rule) {
         if (!all3(base, map, other)) {
             return no(0);
@@ -523,15 +539,15 @@ final class Model {
         int madeBefore = made;
         int token = tokens++;
         N root = held.get(map);
-        for (int key = 0; key <= 999; key++) {
-            int b = find(base, key);
-            int m = find(map, key);
-            int o = find(other, key);
+        for (int[] at : keysOf(base, map, other)) {
+            int b = at[1];
+            int m = at[2];
+            int o = at[3];
             if (o == b || o == m) {
                 continue;
             }
             int comes = m == b ? o : rule == 0 ? m : rule == 1 ? o : b;
-            root = comes == HIDDEN ? takeOut(root, token, key) : put(root, token, key, comes);
+            root = comes == HIDDEN ? takeOut(root, token, at[0]) : put(root, token, at[0], comes);
         }
         if (root.all().size() > 60 || !room()) {
             made = madeBefore;
@@ -545,10 +561,10 @@ final class Model {
             return NONE;
         }
         int found = 0;
-        for (int key = 0; key <= 999; key++) {
-            int b = find(base, key);
-            int m = find(map, key);
-            int o = find(other, key);
+        for (int[] at : keysOf(base, map, other)) {
+            int b = at[1];
+            int m = at[2];
+            int o = at[3];
             found += o != b && o != m && m != b ? 1 : 0;
         }
         return found;
@@ -566,7 +582,7 @@ final class Model {
         }
         int token = tokens++;
         N root = held.get(map);
-        for (int key = 0; key <= 999; key++) {
+        for (int key : new TreeSet<>(root.all().keySet())) {
             root = key < a || key > b ? takeOut(root, token, key) : root;
         }
         return keep(root, List.of(map));
@@ -618,12 +634,12 @@ final class Model {
         } else if (what == 1) {
             it.root = takeOut(it.root, it.token, a);
         } else if (what == 3) {
-            for (int key = a; key <= b; key++) {
-                it.root = takeOut(it.root, it.token, key);
+            for (int key : all.keySet()) {
+                it.root = key >= a && key <= b ? takeOut(it.root, it.token, key) : it.root;
             }
         } else if (what == 4) {
-            for (int key = a; key <= b; key++) {
-                if (all.containsKey(key)) {
+            for (int key : all.keySet()) {
+                if (key >= a && key <= b) {
                     it.root = put(it.root, it.token, key, held(all.get(key) + c));
                 }
             }
@@ -773,9 +789,9 @@ final class Model {
             return HIDDEN;
         }
         List<int[]> found = new ArrayList<>();
-        for (int key = 0; key <= 999; key++) {
-            if (find(map, key) != find(other, key)) {
-                found.add(new int[] {key, find(map, key), find(other, key)});
+        for (int[] at : keysOf(map, map, other)) {
+            if (at[1] != at[3]) {
+                found.add(new int[] {at[0], at[1], at[3]});
             }
         }
         if (i == NONE) {

@@ -2,7 +2,7 @@ import java.util.NoSuchElementException;
 
 /** Long runs of calls, drawn by fixed seeds, on the class and on the model: every answer must be the same. */
 public final class RandomTest {
-    private static final int RUNS = 1500;
+    private static final int RUNS = 800;
     private static final int CALLS = 512;
     private static final int[] ODD = {-1, -2, 0, 1, 4, 16, 60, 240, 998, 999, 1000, -999, -1000, -1000000,
         Integer.MAX_VALUE, Integer.MIN_VALUE, Integer.MAX_VALUE - 1};
@@ -49,8 +49,21 @@ public final class RandomTest {
         return (Integer) m.held.keySet().toArray()[any(m.held.size())];
     }
 
+    /** Now and then a key that a map has. */
     private int key() {
+        int map = map();
+        if (any(3) == 0 && m.about(map, 0) > 0) {
+            return m.key(map, any(m.about(map, 0)));
+        }
         return rarely() ? odd() : any(span);
+    }
+
+    /** Makes room, mostly by dropping the smaller one of two maps. */
+    private void dropped() {
+        int one = map();
+        int two = map();
+        int smaller = m.about(one, 0) < m.about(two, 0) ? one : two;
+        same("drop", x.drop(smaller), m.drop(smaller));
     }
 
     private int value() {
@@ -64,10 +77,10 @@ public final class RandomTest {
     private void all() {
         int width = 3 + run / 5 % 4;
         same("wide", x.wide(width), m.wide(width));
-        for (int i = 0; i + 1 < CALLS; i++) {
+        for (int i = 0; i < CALLS; i++) {
             int kind = any(100);
-            if (kind < 12) {
-                told(i);
+            if (kind < 7) {
+                told();
             } else if (kind < 42) {
                 changed();
             } else if (kind < 62) {
@@ -84,21 +97,18 @@ public final class RandomTest {
         due.is("run " + run + ", " + call, got, want);
     }
 
-    private void told(int i) {
-        if (any(3) > 0) {
-            same("fault", x.fault(1), m.fault(1));
-            int sort = small(2);
-            same("fault", x.fault(sort), m.fault(sort));
-            same("text", x.text(sort), m.text(sort));
-            return;
-        }
-        int n = any(4) > 0 ? 0 : any(m.tape.length() + 2) - any(2);
+    private void told() {
+        int n = any(6) > 0 ? 0 : any(m.tape.length() + 2) - any(2);
         same("end " + n, x.end(n), m.end(n));
-        int[] numbers = Due.packed(any(2) == 0 ? mapText() : programText());
+        int kind = any(2);
+        int[] numbers = Due.packed(kind == 0 ? mapText() : programText());
         for (int j = 0; j + 4 < numbers.length; j += 5) {
             same("feed", x.feed(numbers[j], numbers[j + 1], numbers[j + 2], numbers[j + 3], numbers[j + 4]),
                     m.feed(numbers[j], numbers[j + 1], numbers[j + 2], numbers[j + 3], numbers[j + 4]));
         }
+        int sort = rarely() ? odd() : any(10) == 0 ? 1 - kind : kind;
+        same("fault " + sort, x.fault(sort), m.fault(sort));
+        same("text " + sort, x.text(sort), m.text(sort));
     }
 
     private void same(String call, boolean got, boolean want) {
@@ -111,7 +121,7 @@ public final class RandomTest {
 
     private String mapText() {
         StringBuilder text = new StringBuilder();
-        int entries = any(4) == 0 ? any(60) : any(12);
+        int entries = any(3) == 0 ? any(12) : any(60);
         for (int i = 0; i < entries; i++) {
             text.append(i == 0 ? "" : ",").append(blanks()).append(any(span)).append(blanks()).append(':')
                     .append(blanks()).append(any(5) == 0 ? any(1999) - 999 : any(10)).append(blanks());
@@ -124,14 +134,14 @@ public final class RandomTest {
         StringBuilder text = new StringBuilder();
         int steps = any(8) == 0 ? 18 : 1 + any(12);
         for (int i = 0; i < steps; i++) {
-            int what = any(10) == 0 ? 5 : any(6);
+            int what = any(3) > 0 ? any(2) * 2 : any(6);
             int from = any(span);
             text.append(i == 0 ? "" : ";").append(blanks()).append(words[what]);
             if (what < 5) {
                 text.append(any(4) == 0 ? "" : " ").append(from);
             }
             if (what == 3 || what == 4) {
-                text.append(blanks()).append(' ').append(any(5) == 0 ? any(span) : from + any(span - from));
+                text.append(blanks()).append(' ').append(any(5) == 0 ? any(span) : Math.min(999, from + any(4)));
             }
             if (what == 0 || what == 2 || what == 4) {
                 int value = any(19) - 9;
@@ -162,41 +172,44 @@ public final class RandomTest {
     private void changed() {
         int b = small(4);
         int a = key();
-        int c = rarely() ? key() : Math.min(999, a + any(8));
+        int c = rarely() ? key() : Math.min(999, a + any(4));
         int v = value();
-        int n = small(32);
+        int n = 1 + small(30);
         long seed = any(5) == 0 ? Long.MIN_VALUE + any(9) : any(1000000) - 500000;
         int map = map();
-        int program = small(5);
+        int program = small(4);
         switch (any(15)) {
             case 0: case 1: same("build", x.build(b, map), m.build(b, map)); break;
             case 2: case 3: case 4: same("lay", x.lay(b, a, v), m.lay(b, a, v)); break;
-            case 5: same("take", x.take(b, a), m.take(b, a)); break;
-            case 6: same("add", x.add(b, a, v), m.add(b, a, v)); break;
-            case 7: same("cut", x.cut(b, a, c), m.cut(b, a, c)); break;
-            case 8: same("inc", x.inc(b, a, c, v), m.inc(b, a, c, v)); break;
-            case 9: case 10: same("snap", x.snap(b), m.snap(b)); break;
-            case 11: same("freeze", x.freeze(b), m.freeze(b)); break;
-            case 12: case 13: same("draws", x.draws(b, n, seed), m.draws(b, n, seed)); break;
+            case 5: case 6: same("take", x.take(b, a), m.take(b, a)); break;
+            case 7: same("add", x.add(b, a, v), m.add(b, a, v)); break;
+            case 8: same("cut", x.cut(b, a, c), m.cut(b, a, c)); break;
+            case 9: same("inc", x.inc(b, a, c, v), m.inc(b, a, c, v)); break;
+            case 10: same("snap", x.snap(b), m.snap(b)); break;
+            case 11: same("freeze", any(3) == 0 ? x.freeze(b) - m.freeze(b) : 0, 0); break;
+            case 12: case 13: n = any(3) == 0 ? n : 30; same("draws", x.draws(b, n, seed), m.draws(b, n, seed)); break;
             default: same("run", x.run(program, b), m.run(program, b)); break;
         }
         same("made", x.count(3), m.count(3));
     }
 
     private void made() {
+        while (m.held.size() > 13 && any(8) > 0) {
+            dropped();
+        }
         int one = map();
         int two = map();
         int three = map();
         int a = key();
-        int c = any(3) == 0 ? key() : Math.min(999, a + any(span));
+        int c = any(2) == 0 ? key() : Math.min(999, a + span / 2 + any(span));
         int v = value();
         int rule = small(4);
-        switch (any(16)) {
+        switch (any(13)) {
             case 0: case 1: same("having", x.having(one, a, v), m.having(one, a, v)); break;
             case 2: case 3: same("lacking", x.lacking(one, a), m.lacking(one, a)); break;
             case 4: case 5: same("merge", x.merge(one, two, rule), m.merge(one, two, rule)); break;
             case 6: case 7: same("three", x.three(one, two, three, rule), m.three(one, two, three, rule)); break;
-            case 8: same("slice", x.slice(one, a, c), m.slice(one, a, c)); break;
+            case 8: a = any(3) == 0 ? a : a / 4; same("slice", x.slice(one, a, c), m.slice(one, a, c)); break;
             case 9: same("image", x.image(), m.image()); break;
             case 10:
                 if (any(4) == 0) {
@@ -210,11 +223,7 @@ public final class RandomTest {
                     same("wide", x.wide(width), m.wide(width));
                 }
                 break;
-            default:
-                if (m.held.size() > 9 || any(4) == 0) {
-                    same("drop", x.drop(one), m.drop(one));
-                }
-                break;
+            default: dropped(); break;
         }
         int sort = any(5);
         same("status", x.status(sort), m.status(sort));
