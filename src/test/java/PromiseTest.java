@@ -114,6 +114,11 @@ public final class PromiseTest {
         is("2 nineteen", x.feed(-1, -1, -1, -1, 0x00ffffff), 239);
         is("2 refused whole", x.feed(0x61000000, 0, 0, 0, 0x61), NONE);
         is("2 kept", x.count(6), 239);
+        for (int i = 0; i < 5; i++) {
+            int[] n = new int[5];
+            n[i] = 0x6162;
+            is("2 refused by number " + i, x.feed(n[0], n[1], n[2], n[3], n[4]), NONE);
+        }
         is("2 240", x.feed(0, 0, 0x00610000, 0, 0), 240);
         is("2 241", x.feed(0, 0, 0, 0, 1), NONE);
         is("2 zeros again", x.feed(0, 0, 0, 0, 0), 240);
@@ -264,6 +269,14 @@ public final class PromiseTest {
         for (int i = 0; i < 4; i++) {
             is("5 each its own", x.step(i, 1, 1), i);
         }
+        WideMap y = new WideMap();
+        Due.tape(y, "snap;del 1;x");
+        is("5 read before", y.fault(1), 11);
+        Due.tape(y, "put 2 3");
+        is("5 read twice", y.fault(1), NONE);
+        is("5 read thrice", y.text(1), 0);
+        is("5 these steps alone", y.step(0, 0, 0), 0);
+        is("5 these steps alone", y.step(0, 1, 0), HIDDEN);
         Due.tape(x, "del 7;x");
         is("5 a fault spoils none", x.text(1) + x.fault(1), 5);
         is("5 steps as they were", x.step(3, 1, 1), 3);
@@ -298,10 +311,19 @@ public final class PromiseTest {
         is("6 none live", x.count(4), 0);
         is("6 stale", x.count(7), 0);
         is("6 no image", x.back(), NONE);
+        x.end(0);
+        x.text(0);
+        x.build(0, 0);
+        is("6 a builder", x.count(7), 1);
+        is("6 again", x.wide(6), 6);
+        is("6 all are stale", x.count(7), 0);
+        Due.tape(x, "1:1");
         is("6 program stays", x.step(program, 0, 0), 5);
         is("6 tape stays", x.count(6), 3);
         is("6 status stays", x.status(1), 3);
         is("6 shown stays", x.shown(0), '(');
+        is("6 nothing for an image", x.image(), 0);
+        is("6 nothing to come back", x.back(), 0);
         is("6 from the first again", x.text(0), 0);
         is("6 no line", x.comesFrom(0, 0), 1);
         is("6 not given", x.comesFrom(0, 1), NONE);
@@ -345,6 +367,11 @@ public final class PromiseTest {
             is("9 about " + what, x.about(0, what), about[what]);
         }
         is("9 no such", x.about(0, -1), HIDDEN);
+        WideMap y = new WideMap();
+        Due.map(y, "5:5");
+        is("9 one leaf", y.about(0, 3), 1);
+        is("9 one leaf", y.about(0, 2), 1);
+        is("9 one leaf", y.about(0, 1), 1);
         is("9 no map", x.about(1, 0), HIDDEN);
         x.having(0, 10, 5);
         x.merge(1, 0, 0);
@@ -393,6 +420,11 @@ public final class PromiseTest {
             is("11 empty", x.near(1, -1, what), NONE);
         }
         is("12 empty", x.total(1, 0, 999), 0);
+        is("11 one after another", x.near(0, 11, 0), 10);
+        is("12 one after another", x.near(1, 11, 0) + x.total(0, 10, 20), NONE + 3);
+        is("10 one after another", x.below(1, 99), 0);
+        is("10 one after another", x.below(0, 99), 5);
+        is("12 one after another", x.find(1, 10) + x.total(1, 10, 20), HIDDEN);
     }
 
     // ---- promise 13
@@ -697,6 +729,8 @@ public final class PromiseTest {
         looks(x, x.slice(0, 3, 6), "([3:3 4:4][5:5 6:6])");
         looks(x, x.slice(0, 4, 4), "[4:4]");
         looks(x, x.slice(0, 9, 9), "[]");
+        is("19 asked of another", x.below(5, 999), 0);
+        looks(x, x.slice(0, 7, 8), "[7:7 8:8]");
         is("19 comes from", x.about(5, 5), 0);
         is("19 comes from one", x.about(5, 6), NONE);
         is("19 no map", x.slice(9, 5, 4), NONE);
@@ -1149,6 +1183,13 @@ public final class PromiseTest {
         is("37 another key", x.alike(0, 4, 0), 0);
         is("37 one fewer", x.alike(0, 5, 0), 0);
         is("37 one more", x.alike(5, 0, 0), 0);
+        is("37 one more", x.alike(5, 0, 1), 0);
+        int first = Due.map(x, "1:2,2:2,3:3,4:4,5:5");
+        is("37 another first value", x.alike(0, first, 0) + x.alike(0, first, 1), 0);
+        x.drop(first);
+        first = Due.map(x, "0:1,2:2,3:3,4:4,5:5");
+        is("37 another first key", x.alike(0, first, 0) + x.alike(0, first, 1), 0);
+        x.drop(first);
         is("37 no such what", x.alike(0, 1, 2), NONE);
         is("37 no such what", x.alike(0, 1, -1), NONE);
         is("37 no map", x.alike(0, 9, 0), NONE);
@@ -1303,6 +1344,8 @@ public final class PromiseTest {
         }
         is("46 others", x.count(8), HIDDEN);
         is("46 others", x.count(-1), HIDDEN);
+        is("46 after marks", x.shared(0, 1) + x.shared(0, 0) + x.count(4), 4 + 7 + 13);
+        is("46 the same again", x.count(4), 13);
         x.drop(0);
         is("46 the builder has them", x.count(4), 13);
         x.build(3, 1);
@@ -1317,6 +1360,14 @@ public final class PromiseTest {
         x.image();
         x.back();
         is("46 of none", x.count(4), 0);
+        WideMap y = new WideMap();
+        Due.map(y, "1:1");
+        is("46 of the first map", y.count(4), 1);
+        y.build(0, 0);
+        is("46 the first builder", y.count(7), 1);
+        y.image();
+        y.back();
+        is("45 the first builder is stale", y.count(7), 0);
     }
 
     // ---- numbers up to 998
@@ -1344,6 +1395,19 @@ public final class PromiseTest {
         is("33 none left", x.run(0, 0), 0);
         x.back();
         is("39 998 is given", x.comesFrom(0, 998), 0);
+        WideMap y = new WideMap();
+        Due.map(y, "1:1");
+        Due.program(y, "snap;".repeat(15) + "snap");
+        y.image();
+        while (y.count(2) < 999) {
+            y.back();
+            y.build(0, 0);
+            y.run(0, 0);
+        }
+        is("38 of the last one", y.fork(998, 998), 998);
+        is("38 of the last one", y.fork(998, 997), 997);
+        is("39 of the last one", y.comesFrom(998, 998), 1);
+        is("20 of the last one", y.drop(998) >= 1, true);
         is("39 999 is not", x.comesFrom(0, 999), NONE);
         x.wide(4);
         is("6 from the first again", x.text(0), 0);
