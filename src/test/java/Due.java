@@ -10,6 +10,11 @@ final class Due {
         this.where = where;
     }
 
+    /** How many answers were asked for. */
+    int seen() {
+        return seen;
+    }
+
     void is(String call, long got, long want) {
         seen++;
         if (got != want) {

@@ -1031,7 +1031,7 @@ public final class PromiseTest {
         is("31 one", x.draws(0, 1, 5) >= 0, true);
         is("31 bounds before stale", x.draws(1, 0, 5), NONE);
         is("31 bounds before stale", x.status(1), 4);
-        // seed 0: 1442695040888963407 >> 33 is 167953887, of 4: 3, a taking out
+        // seed 0: 1442695040888963407 >> 33 is 167951807, of 4: 3, a taking out
         WideMap y = new WideMap();
         Due.map(y, "");
         y.build(0, 0);
